@@ -579,14 +579,13 @@ public final class CloudPaths {
             return count;
         }
 
-        /** What stands ahead of a rule changes only where an earlier block begins or ends: those addresses tell for all. */
+        /** The first address at which a port is left is the base of the rule or stands right behind an earlier block. */
         private boolean isIdle(Rule rule) {
             if (isMetAt(rule, rule.block.base)) {
                 return false;
             }
             for (int i = 0; i < rules.size() && rules.get(i) != rule; i++) {
-                Block earlier = rules.get(i).block;
-                if (isMetAt(rule, earlier.base) || isMetAt(rule, earlier.end())) {
+                if (isMetAt(rule, rules.get(i).block.end())) {
                     return false;
                 }
             }

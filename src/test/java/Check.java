@@ -20,6 +20,13 @@ final class Check {
         due(call, got ? 1 : 0, want ? 1 : 0);
     }
 
+    /** The exception's class, if the program threw it itself; what the machine or the library threw is told apart. */
+    static String nameOf(RuntimeException e) {
+        StackTraceElement[] trace = e.getStackTrace();
+        boolean own = trace.length > 0 && trace[0].getClassName().startsWith("CloudPaths");
+        return e.getClass().getSimpleName() + (own ? "" : " of the machine");
+    }
+
     /** Exactly this class is due: the machine's own exceptions are classes below the documented ones. */
     void refused(String call, Class<? extends RuntimeException> want, Runnable run) {
         asked++;
@@ -27,7 +34,7 @@ final class Check {
         try {
             run.run();
         } catch (RuntimeException e) {
-            got = e.getClass().getSimpleName();
+            got = nameOf(e);
         }
         if (!got.equals(want.getSimpleName())) {
             wrong++;

@@ -5,8 +5,8 @@ final class Clouds {
     /** base, size of what is no block. */
     static final int[][] NO_BLOCKS = {
         {0, -1}, {0, 11}, {0, 31}, {0, 32}, {0, Integer.MAX_VALUE}, {0, Integer.MIN_VALUE},
-        {1024, 0}, {1024, 10}, {2048, 10}, {-1, 0}, {-4, 2}, {-1024, 10}, {1, 1}, {6, 2}, {1023, 1}, {512, 10}, {511, 9},
-        {Integer.MIN_VALUE, 0}, {Integer.MIN_VALUE, 10}, {Integer.MAX_VALUE, 0},
+        {1024, 0}, {1024, 10}, {2048, 10}, {-1, 0}, {-4, 2}, {-1024, 10}, {1, 1}, {6, 2}, {1023, 1},
+        {512, 10}, {511, 9}, {Integer.MIN_VALUE, 0}, {Integer.MIN_VALUE, 10}, {Integer.MAX_VALUE, 0},
     };
 
     /** first, last of what is no range of ports. */

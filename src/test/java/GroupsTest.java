@@ -149,6 +149,8 @@ public final class GroupsTest {
         check.due("the other group outwards", x.ports(0, 1), 0b1_0000_0000);
         check.due("replies are not asked for groups", x.blocks(0, 1, 8), 0);
         check.due("the other way", x.blocks(1, 0, 8), 0);
+        x.allow(1, false, 2, 0, 6, 6);
+        check.due("two rules of one group", x.ports(0, 1), 0b1_0100_0000);
         x.setGroup(0, 1, false);
         check.due("a host without groups lets nothing out", x.blocks(0, 1, 8), 2);
         check.due("a host without groups lets nothing in", x.blocks(1, 0, 8), 32);

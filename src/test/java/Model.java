@@ -105,13 +105,16 @@ final class Model {
     }
 
     private static int number(RuntimeException e) {
-        if (e.getClass() == IndexOutOfBoundsException.class) {
-            return BOUNDS;
+        switch (Check.nameOf(e)) {
+            case "IndexOutOfBoundsException":
+                return BOUNDS;
+            case "IllegalArgumentException":
+                return ARGUMENT;
+            case "IllegalStateException":
+                return STATE;
+            default:
+                return -104;
         }
-        if (e.getClass() == IllegalArgumentException.class) {
-            return ARGUMENT;
-        }
-        return e.getClass() == IllegalStateException.class ? STATE : -104;
     }
 
     int networkCount() {

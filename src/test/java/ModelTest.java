@@ -4,12 +4,16 @@ import java.util.Arrays;
 public final class ModelTest {
     private static final int RUNS = 400;
     private static final int CALLS = 512;
-    private static final String[] BUILDING = {"addNetwork", "addSubnet", "addSubnet", "addHost", "addHost", "addPeering", "addGroup"};
+    private static final String[] BUILDING = {
+        "addNetwork", "addSubnet", "addSubnet", "addHost", "addHost", "addPeering", "addGroup",
+    };
     private static final String[] CHANGING = {
         "allow", "allow", "setGroup", "setGroup", "setGroup", "putRule", "putRule", "putRule", "removeRule",
         "setRoute", "setRoute", "setRoute",
     };
-    private static final String[] ASKING = {"routeFor", "ports", "blockedBy", "blocks", "pairs", "reachedFrom", "idleRules", "ports", "blocks"};
+    private static final String[] ASKING = {
+        "routeFor", "ports", "blockedBy", "blocks", "pairs", "reachedFrom", "idleRules", "ports", "blocks",
+    };
 
     private final Model model = new Model();
     private final CloudPaths object = new CloudPaths();
@@ -54,7 +58,8 @@ public final class ModelTest {
     }
 
     private void compare(String name, int[] args) {
-        check.due("run " + run + " " + name + Arrays.toString(args), Model.call(object, name, args), model.call(name, args));
+        String call = "run " + run + " " + name + Arrays.toString(args);
+        check.due(call, Model.call(object, name, args), model.call(name, args));
     }
 
     private String nextName(int call) {
@@ -87,8 +92,11 @@ public final class ModelTest {
             case "setGroup":
                 return new int[] {number(model.hostCount()), below(2) * number(6), below(4) == 0 ? 0 : 1};
             case "putRule":
-                return new int[] {number(model.subnetCount()), below(14) - (below(9) == 0 ? 1 : 0) >> below(3), below(2), below(3) == 0 ? 0 : 1,
-                    block[0], block[1], first, last};
+                int place = below(14) - (below(9) == 0 ? 1 : 0) >> below(3);
+                int allows = below(3) == 0 ? 0 : 1;
+                return new int[] {
+                    number(model.subnetCount()), place, below(2), allows, block[0], block[1], first, last,
+                };
             case "removeRule":
                 return new int[] {number(model.subnetCount()), below(14) >> below(3)};
             case "setRoute":
