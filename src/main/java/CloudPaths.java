@@ -579,7 +579,7 @@ public final class CloudPaths {
             return count;
         }
 
-        /** The first address at which a port is left is the base of the rule or stands right behind an earlier block. */
+        /** The first address at which a port is left is the rule's base or stands right behind an earlier block. */
         private boolean isIdle(Rule rule) {
             if (isMetAt(rule, rule.block.base)) {
                 return false;
