@@ -1,3 +1,7 @@
+import java.util.List;
+import java.util.function.Consumer;
+import java.util.function.Supplier;
+
 /** Counts and prints the answers that are not the ones that are due. */
 final class Check {
     private final String test;
@@ -28,7 +32,7 @@ final class Check {
     }
 
     /** Exactly this class is due: the machine's own exceptions are classes below the documented ones. */
-    void refused(String call, Class<? extends RuntimeException> want, Runnable run) {
+    private void refused(String call, String want, Runnable run) {
         asked++;
         String got = "nothing";
         try {
@@ -36,22 +40,56 @@ final class Check {
         } catch (RuntimeException e) {
             got = nameOf(e);
         }
-        if (!got.equals(want.getSimpleName())) {
+        if (!got.equals(want)) {
             wrong++;
-            System.out.println(test + ": " + call + " threw " + got + ", due is " + want.getSimpleName());
+            System.out.println(test + ": " + call + " threw " + got + ", due is " + want);
         }
     }
 
+    /** The call is refused, and its cloud then answers what one of the same making answers that did not hear it. */
+    private void refused(String call, String want, Supplier<CloudPaths> cloud, Consumer<CloudPaths> run) {
+        for (boolean backwards : new boolean[] {false, true}) {
+            CloudPaths x = cloud.get();
+            refused(call, want, () -> run.accept(x));
+            same("after " + call, Answers.of(x, backwards), Answers.of(cloud.get(), backwards));
+        }
+    }
+
+    void outOfBounds(String call, Supplier<CloudPaths> cloud, Consumer<CloudPaths> run) {
+        refused(call, "IndexOutOfBoundsException", cloud, run);
+    }
+
+    void badArgument(String call, Supplier<CloudPaths> cloud, Consumer<CloudPaths> run) {
+        refused(call, "IllegalArgumentException", cloud, run);
+    }
+
+    void badState(String call, Supplier<CloudPaths> cloud, Consumer<CloudPaths> run) {
+        refused(call, "IllegalStateException", cloud, run);
+    }
+
     void outOfBounds(String call, Runnable run) {
-        refused(call, IndexOutOfBoundsException.class, run);
+        refused(call, "IndexOutOfBoundsException", run);
     }
 
     void badArgument(String call, Runnable run) {
-        refused(call, IllegalArgumentException.class, run);
+        refused(call, "IllegalArgumentException", run);
     }
 
     void badState(String call, Runnable run) {
-        refused(call, IllegalStateException.class, run);
+        refused(call, "IllegalStateException", run);
+    }
+
+    void same(String what, List<String> got, List<String> want) {
+        asked++;
+        for (int i = 0; i < Math.max(got.size(), want.size()); i++) {
+            String one = i < got.size() ? got.get(i) : "nothing";
+            String other = i < want.size() ? want.get(i) : "nothing";
+            if (!one.equals(other)) {
+                wrong++;
+                System.out.println(test + ": " + what + ": " + one + ", due is: " + other);
+                return;
+            }
+        }
     }
 
     void end() {
