@@ -1,3 +1,5 @@
+import java.util.Arrays;
+
 /** 'Terms' on groups, lists, routes and the parts of a connection. A test's comment has its sentence. */
 public final class PacketsTest {
     private static final Check check = new Check("PacketsTest");
@@ -12,6 +14,7 @@ public final class PacketsTest {
     private static final int REPLY_ENTERS = 1 << 8;
 
     public static void main(String[] args) {
+        allPortsAtOnce();
         hostInAnyGroups();
         leaveByOneRule();
         comeByOneRule();
@@ -41,6 +44,32 @@ public final class PacketsTest {
         sameNetworkIsNotTheSameSubnet();
         worksIfAllPartsLetThrough();
         check.end();
+    }
+
+    /** "for all ports at once which of them reach .. to another one and back, and for a port which parts block it." */
+    private static void allPortsAtOnce() {
+        CloudPaths x = Clouds.apart(7, 8);
+        x.allow(0, false, 8, 0, 2, 13);
+        x.allow(0, true, 7, 0, 0, 11);
+        x.putRule(0, 0, false, false, 8, 0, 5, 6);
+        x.putRule(0, 1, false, true, 8, 0, 0, 15);
+        x.putRule(1, 0, true, false, 7, 0, 9, 9);
+        x.putRule(1, 1, true, true, 7, 0, 0, 15);
+        int[] due = new int[16];
+        Arrays.fill(due, 0, 2, LEAVE_HOST);
+        Arrays.fill(due, 5, 7, LEAVE_SUBNET);
+        due[9] = ENTER_SUBNET;
+        Arrays.fill(due, 12, 14, ENTER_HOST);
+        Arrays.fill(due, 14, 16, LEAVE_HOST + ENTER_HOST);
+        check.due("the ports that reach there and back", x.ports(0, 1), 0b1101_1001_1100);
+        for (int port = 0; port < 16; port++) {
+            check.due("the parts that block port " + port, x.blocks(0, 1, port), due[port]);
+        }
+        x.putRule(1, 0, false, false, 7, 0, 15, 15);
+        check.due("the ports that reach, none of them back", x.ports(0, 1), 0);
+        for (int port = 0; port < 16; port++) {
+            check.due("the parts then, port " + port, x.blocks(0, 1, port), due[port] + REPLY_LEAVES);
+        }
     }
 
     // ---- groups
